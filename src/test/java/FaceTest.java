@@ -1,0 +1,123 @@
+import java.io.IOException;
+import java.lang.reflect.Constructor;
+import java.lang.reflect.Field;
+import java.lang.reflect.Method;
+import java.lang.reflect.Modifier;
+import java.nio.file.Files;
+import java.nio.file.Path;
+import java.util.Arrays;
+import java.util.TreeSet;
+import java.util.regex.Matcher;
+import java.util.regex.Pattern;
+
+/** The document's public face, and the rules of the language that a short look can tell. */
+public final class FaceTest {
+    private static final String[] FACE = {
+        "int piece(int, int, int, int) IllegalArgumentException UnsupportedOperationException",
+        "int turn(int, int) NoSuchElementException IllegalArgumentException",
+        "void limit(int, int) NoSuchElementException IllegalArgumentException",
+        "int rank(int, int) NoSuchElementException IllegalArgumentException",
+        "void share(int) IllegalArgumentException",
+        "int solve(int) IllegalArgumentException",
+        "boolean exact()",
+        "int steps()",
+        "int bound()",
+        "int at(int, int) NoSuchElementException IllegalArgumentException",
+        "boolean over(int, int) NoSuchElementException IllegalStateException",
+        "int support(int) NoSuchElementException ArithmeticException",
+        "int bears(int) NoSuchElementException IllegalStateException",
+        "int cell(int, int, int) ArrayIndexOutOfBoundsException",
+        "int close() IllegalStateException",
+        "int box(int) NoSuchElementException",
+        "int count(int)",
+    };
+    /** The machine's exceptions can't be caught where nothing is caught. */
+    private static final String[] BARRED = {
+        "try", "catch", "finally", "synchronized", "assert", "native", "strictfp", "volatile",
+        "->", "::", "Exact(", "System.", "Random", "Thread", "protected", "@",
+    };
+    private static int wrong = 0;
+
+    private static void hold(boolean holds, String what) {
+        if (!holds) {
+            wrong++;
+            System.out.println(what);
+        }
+    }
+
+    public static void main(String[] args) throws IOException {
+        face();
+        hidden();
+        source();
+        System.out.println(wrong == 0 ? "the face is as due" : wrong + " faults");
+        if (wrong != 0) {
+            System.exit(1);
+        }
+    }
+
+    private static String tell(Method method) {
+        StringBuilder text = new StringBuilder();
+        text.append(method.getReturnType().getSimpleName()).append(' ').append(method.getName()).append('(');
+        Class<?>[] types = method.getParameterTypes();
+        for (int i = 0; i < types.length; i++) {
+            text.append(i == 0 ? "" : ", ").append(types[i].getSimpleName());
+        }
+        text.append(')');
+        for (Class<?> thrown : method.getExceptionTypes()) {
+            text.append(' ').append(thrown.getSimpleName());
+        }
+        return text.toString();
+    }
+
+    private static void face() {
+        TreeSet<String> due = new TreeSet<>(Arrays.asList(FACE));
+        TreeSet<String> there = new TreeSet<>();
+        TreeSet<String> publicNames = new TreeSet<>();
+        for (Method method : PackingSearch.class.getDeclaredMethods()) {
+            if (Modifier.isPublic(method.getModifiers())) {
+                there.add(tell(method));
+                publicNames.add(method.getName());
+            } else {
+                hold(Modifier.isPrivate(method.getModifiers()), method + " is neither public nor private");
+            }
+        }
+        hold(due.equals(there), "the public methods are " + there);
+        for (Method method : PackingSearch.class.getDeclaredMethods()) {
+            boolean clash = Modifier.isPrivate(method.getModifiers()) && publicNames.contains(method.getName());
+            hold(!clash, method + " bears a public method's name");
+        }
+    }
+
+    private static void hidden() {
+        int kind = PackingSearch.class.getModifiers();
+        hold(Modifier.isPublic(kind) && Modifier.isFinal(kind), "the class is not public and final");
+        Constructor<?>[] constructors = PackingSearch.class.getDeclaredConstructors();
+        hold(constructors.length == 1 && Modifier.isPublic(constructors[0].getModifiers()), "not one constructor");
+        for (Field field : PackingSearch.class.getDeclaredFields()) {
+            hold(Modifier.isPrivate(field.getModifiers()), field + " is not private");
+        }
+        for (Class<?> inside : PackingSearch.class.getDeclaredClasses()) {
+            hold(Modifier.isStatic(inside.getModifiers()), inside + " is not static");
+            for (Field field : inside.getDeclaredFields()) {
+                boolean open = Modifier.isStatic(field.getModifiers()) && !Modifier.isFinal(field.getModifiers());
+                hold(!open, field + " is static state");
+            }
+        }
+    }
+
+    private static void source() throws IOException {
+        String text = Files.readString(Path.of("src/main/java/PackingSearch.java"));
+        String code = text.replaceAll("//[^\n]*", "").replaceAll("\"[^\"\n]*\"", "\"\"");
+        for (String word : BARRED) {
+            boolean letters = Character.isLetter(word.charAt(0)) && Character.isLetter(word.charAt(word.length() - 1));
+            String sought = letters ? "\\b" + word + "\\b" : Pattern.quote(word);
+            hold(!Pattern.compile(sought).matcher(code).find(), "the class uses " + word);
+        }
+        Matcher imports = Pattern.compile("import [^;]*;").matcher(code);
+        while (imports.find()) {
+            hold(imports.group().equals("import java.util.NoSuchElementException;"), imports.group());
+        }
+        Matcher thrown = Pattern.compile("throw (?!new \\w+\\((\"\")?\\);)").matcher(code);
+        hold(!thrown.find(), "a throw in another form");
+    }
+}
