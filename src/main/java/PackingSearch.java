@@ -13,6 +13,9 @@ public final class PackingSearch {
     private static final int WAYS = 6;
     private static final int LAST_DETAIL = 6;
     private static final int NONE = -1;
+    private static final int ALONG_WIDTH = 0;
+    private static final int ALONG_DEPTH = 1;
+    private static final int ALONG_HEIGHT = 2;
 
     // All six are made at once and never replaced, so that no reference here is ever null.
     private final Piece[] pieces;
@@ -262,7 +265,6 @@ public final class PackingSearch {
 
     private void startSearch(int steps) {
         plan.clear();
-        trial.clear();
         stepsAllowed = steps;
         stepsDone = 0;
         bestVolume = NONE;
@@ -300,9 +302,9 @@ public final class PackingSearch {
 
     // A place at the box's far side is no place for any piece, but it is a trial and so a step.
     private void tryWay(int depth, Piece piece, Spot spot, int way) {
-        int xs = trial.endsInX();
-        int ys = trial.endsInY();
-        int zs = trial.endsInZ();
+        int xs = trial.ends(ALONG_WIDTH);
+        int ys = trial.ends(ALONG_DEPTH);
+        int zs = trial.ends(ALONG_HEIGHT);
         for (int z = 0; z <= LONGEST_SIDE; z++) {
             if (!isIn(zs, z)) {
                 continue;
@@ -324,6 +326,7 @@ public final class PackingSearch {
                     if (trial.isPlanWith(spot, leastShare)) {
                         searchFrom(depth + 1);
                     }
+                    // Also when the search is cut short: the next one needs an empty trial.
                     spot.leave();
                     if (cutShort) {
                         return;
@@ -470,7 +473,6 @@ public final class PackingSearch {
         int standers;
 
         Spot() {
-            mostBorne = NO_LIMIT;
         }
 
         void stand(Piece piece, int itsWay, int atX, int atY, int atZ) {
@@ -519,6 +521,17 @@ public final class PackingSearch {
                     return height;
                 default:
                     return way;
+            }
+        }
+
+        int endAlong(int axis) {
+            switch (axis) {
+                case ALONG_WIDTH:
+                    return x + width;
+                case ALONG_DEPTH:
+                    return y + depth;
+                default:
+                    return z + height;
             }
         }
 
@@ -638,39 +651,19 @@ public final class PackingSearch {
             int highest = 0;
             for (int i = 0; i < spots.length; i++) {
                 if (spots[i].placed) {
-                    highest = Math.max(highest, spots[i].z + spots[i].height);
+                    highest = Math.max(highest, spots[i].endAlong(ALONG_HEIGHT));
                 }
             }
             return highest;
         }
 
-        // The three below answer sets, a bit for each number: ends are at most 8,
-        // and a set walked upward gives each of them once and in order.
-        int endsInX() {
+        // A set, a bit for each number: ends are at most 8, and a set that is walked upward
+        // gives each of them once and in order.
+        int ends(int axis) {
             int ends = 1;
             for (int i = 0; i < spots.length; i++) {
                 if (spots[i].placed) {
-                    ends |= 1 << (spots[i].x + spots[i].width);
-                }
-            }
-            return ends;
-        }
-
-        int endsInY() {
-            int ends = 1;
-            for (int i = 0; i < spots.length; i++) {
-                if (spots[i].placed) {
-                    ends |= 1 << (spots[i].y + spots[i].depth);
-                }
-            }
-            return ends;
-        }
-
-        int endsInZ() {
-            int ends = 1;
-            for (int i = 0; i < spots.length; i++) {
-                if (spots[i].placed) {
-                    ends |= 1 << (spots[i].z + spots[i].height);
+                    ends |= 1 << spots[i].endAlong(axis);
                 }
             }
             return ends;
@@ -734,7 +727,9 @@ public final class PackingSearch {
         // A round goes one floor up at least, and there are no more floors than pieces.
         int weightOn(Spot bearer) {
             int all = bearer.standers;
-            for (int round = 0; round < spots.length; round++) {
+            int known = 0;
+            for (int round = 0; round < spots.length && known != all; round++) {
+                known = all;
                 for (int i = 0; i < spots.length; i++) {
                     if (isIn(all, i)) {
                         all |= spots[i].standers;

@@ -273,6 +273,7 @@ public final class PromisesTest {
         due("a packed piece's", -1, () -> x.rank(2, 0));
         due("the packed one counts no more", 0, () -> x.rank(0, 9));
         due("nor here", 1, () -> x.rank(1, 9));
+        due("those of rank 9 are searched too", 1, () -> x.solve(3000));
         refused("rank -1", IllegalArgumentException.class, () -> x.rank(0, -1));
         refused("rank 10", IllegalArgumentException.class, () -> x.rank(0, 10));
         refused("rank 10 of a packed piece", IllegalArgumentException.class, () -> x.rank(2, 10));
@@ -428,6 +429,11 @@ public final class PromisesTest {
         }
         equal.solve(1 + 8 + 12);
         due("equal ends are one", 21, () -> equal.steps());
+        PackingSearch full = new PackingSearch(8, 8, 8);
+        full.piece(8, 8, 8, 0);
+        full.piece(1, 1, 1, 0);
+        full.solve(3000);
+        due("ends at the far side of the greatest box are tried too", 10, () -> full.steps());
         PackingSearch many = new PackingSearch(8, 8, 8);
         for (int i = 0; i < 6; i++) {
             many.piece(1, 1, 1, 0);
@@ -601,6 +607,22 @@ public final class PromisesTest {
         high.solve(3000);
         due("five of a hundred", 500, () -> high.bears(0));
         due("from the middle", 300, () -> high.bears(2));
+        PackingSearch turned = new PackingSearch(1, 1, 6);
+        for (int i = 0; i < 6; i++) {
+            turned.piece(1, 1, 1, 1 << i);
+            turned.rank(i, 9 - i);
+        }
+        turned.solve(3000);
+        due("downward numbers: the lowest bears all", 31, () -> turned.bears(5));
+        due("and the next", 15, () -> turned.bears(4));
+        PackingSearch middle = tower(3, 10);
+        middle.rank(0, 1);
+        middle.rank(2, 2);
+        middle.limit(1, 20);
+        due("0 stands between 1 and 2", 3, () -> middle.solve(3000));
+        due("1 bears both", 20, () -> middle.bears(1));
+        middle.limit(1, 19);
+        due("and now it can't", 2, () -> middle.solve(3000));
     }
 
     private static void cells() {
