@@ -160,6 +160,7 @@ public final class PackingSearch {
 
     public int cell(int x, int y, int z) throws ArrayIndexOutOfBoundsException {
         if (!plan.hasCell(x, y, z)) {
+            // The document asks for the machine's own exception, and the machine must not throw here.
             throw new ArrayIndexOutOfBoundsException("no such cell");
         }
         return plan.pieceIn(x, y, z);
@@ -472,9 +473,6 @@ public final class PackingSearch {
         int mostBorne;
         int standers;
 
-        Spot() {
-        }
-
         void stand(Piece piece, int itsWay, int atX, int atY, int atZ) {
             placed = true;
             x = atX;
@@ -724,12 +722,13 @@ public final class PackingSearch {
             }
         }
 
-        // A round goes one floor up at least, and there are no more floors than pieces.
+        // Needs noteStanders() first. A round goes one floor up at least, and there are
+        // no more floors than pieces.
         int weightOn(Spot bearer) {
             int all = bearer.standers;
-            int known = 0;
-            for (int round = 0; round < spots.length && known != all; round++) {
-                known = all;
+            int before = 0;
+            for (int round = 0; round < spots.length && before != all; round++) {
+                before = all;
                 for (int i = 0; i < spots.length; i++) {
                     if (isIn(all, i)) {
                         all |= spots[i].standers;
