@@ -1,52 +1,7 @@
-import java.util.NoSuchElementException;
-
 /** For each promise of the document: ordinary inputs, the edges that it names, and wrong inputs. */
-public final class PromisesTest {
-    private static int wrong = 0;
-    private static String promise = "";
-
-    private interface Call {
-        long answer();
-    }
-
-    private interface Order {
-        void carryOut();
-    }
-
-    private static void due(String what, long want, Call call) {
-        String got;
-        try {
-            got = Long.toString(call.answer());
-        } catch (RuntimeException e) {
-            got = e.getClass().getSimpleName();
-        }
-        hold(what, Long.toString(want), got);
-    }
-
-    private static void due(String what, boolean want, boolean got) {
-        hold(what, Boolean.toString(want), Boolean.toString(got));
-    }
-
-    private static void refused(String what, Class<? extends RuntimeException> want, Order order) {
-        String got = "nothing thrown";
-        try {
-            order.carryOut();
-        } catch (RuntimeException e) {
-            got = e.getClass().getSimpleName();
-        }
-        hold(what, want.getSimpleName(), got);
-    }
-
-    private static void hold(String what, String want, String got) {
-        if (!want.equals(got)) {
-            wrong++;
-            System.out.println(promise + ": " + what + " answered " + got + ", due is " + want);
-        }
-    }
-
+public final class PromisesTest extends Checks {
     public static void main(String[] args) {
         newObject();
-        boxSides();
         pieces();
         turns();
         turnsInPlans();
@@ -67,14 +22,11 @@ public final class PromisesTest {
         closes();
         boxes();
         counts();
-        System.out.println(wrong == 0 ? "all answers are as due" : wrong + " answers are not as due");
-        if (wrong != 0) {
-            System.exit(1);
-        }
+        end();
     }
 
     private static void newObject() {
-        promise = "Promise 1";
+        sentence("Promise 1");
         PackingSearch x = new PackingSearch(3, 4, 5);
         for (int what = 0; what <= 6; what++) {
             int asked = what;
@@ -82,50 +34,33 @@ public final class PromisesTest {
         }
         due("bound of a new object", 0, () -> x.bound());
         due("cell(2, 3, 4)", -1, () -> x.cell(2, 3, 4));
-        refused("cell(3, 0, 0)", ArrayIndexOutOfBoundsException.class, () -> x.cell(3, 0, 0));
-        refused("cell(0, 4, 0)", ArrayIndexOutOfBoundsException.class, () -> x.cell(0, 4, 0));
-        refused("cell(0, 0, 5)", ArrayIndexOutOfBoundsException.class, () -> x.cell(0, 0, 5));
-        refused("box(0)", NoSuchElementException.class, () -> x.box(0));
-    }
-
-    private static void boxSides() {
-        int[] told = {Integer.MIN_VALUE, -1, 0, 1, 2, 7, 8, 9, Integer.MAX_VALUE};
-        int[] side = {1, 1, 1, 1, 2, 7, 8, 8, 8};
-        for (int i = 0; i < told.length; i++) {
-            int n = side[i];
-            PackingSearch wide = new PackingSearch(told[i], 1, 1);
-            due("last cell, width " + told[i], -1, () -> wide.cell(n - 1, 0, 0));
-            refused("next cell, width " + told[i], ArrayIndexOutOfBoundsException.class, () -> wide.cell(n, 0, 0));
-            PackingSearch deep = new PackingSearch(1, told[i], 1);
-            due("last cell, depth " + told[i], -1, () -> deep.cell(0, n - 1, 0));
-            refused("next cell, depth " + told[i], ArrayIndexOutOfBoundsException.class, () -> deep.cell(0, n, 0));
-            PackingSearch high = new PackingSearch(1, 1, told[i]);
-            due("last cell, height " + told[i], -1, () -> high.cell(0, 0, n - 1));
-            refused("next cell, height " + told[i], ArrayIndexOutOfBoundsException.class, () -> high.cell(0, 0, n));
-        }
+        refused("cell(3, 0, 0)", NO_CELL, () -> x.cell(3, 0, 0));
+        refused("cell(0, 4, 0)", NO_CELL, () -> x.cell(0, 4, 0));
+        refused("cell(0, 0, 5)", NO_CELL, () -> x.cell(0, 0, 5));
+        refused("box(0)", NO_PIECE, () -> x.box(0));
     }
 
     private static void pieces() {
-        promise = "Promise 2";
+        sentence("Promise 2");
         PackingSearch x = new PackingSearch(8, 8, 8);
-        refused("width 0", IllegalArgumentException.class, () -> x.piece(0, 1, 1, 0));
-        refused("width 9", IllegalArgumentException.class, () -> x.piece(9, 1, 1, 0));
-        refused("depth 0", IllegalArgumentException.class, () -> x.piece(1, 0, 1, 0));
-        refused("depth 9", IllegalArgumentException.class, () -> x.piece(1, 9, 1, 0));
-        refused("height 0", IllegalArgumentException.class, () -> x.piece(1, 1, 0, 0));
-        refused("height 9", IllegalArgumentException.class, () -> x.piece(1, 1, 9, 0));
-        refused("weight -1", IllegalArgumentException.class, () -> x.piece(1, 1, 1, -1));
-        refused("weight 101", IllegalArgumentException.class, () -> x.piece(1, 1, 1, 101));
-        refused("least width", IllegalArgumentException.class, () -> x.piece(Integer.MIN_VALUE, 1, 1, 0));
+        refused("width 0", RANGE, () -> x.piece(0, 1, 1, 0));
+        refused("width 9", RANGE, () -> x.piece(9, 1, 1, 0));
+        refused("depth 0", RANGE, () -> x.piece(1, 0, 1, 0));
+        refused("depth 9", RANGE, () -> x.piece(1, 9, 1, 0));
+        refused("height 0", RANGE, () -> x.piece(1, 1, 0, 0));
+        refused("height 9", RANGE, () -> x.piece(1, 1, 9, 0));
+        refused("weight -1", RANGE, () -> x.piece(1, 1, 1, -1));
+        refused("weight 101", RANGE, () -> x.piece(1, 1, 1, 101));
+        refused("least width", RANGE, () -> x.piece(MIN, 1, 1, 0));
         due("pieces behind refusals", 0, () -> x.count(0));
         due("least piece", 0, () -> x.piece(1, 1, 1, 0));
         due("greatest piece", 1, () -> x.piece(8, 8, 8, 100));
         for (int i = 2; i < 6; i++) {
             due("piece " + i, i, () -> x.piece(2, 3, 4, 5));
         }
-        refused("a seventh", UnsupportedOperationException.class, () -> x.piece(1, 1, 1, 1));
-        refused("a seventh of width 0", IllegalArgumentException.class, () -> x.piece(0, 1, 1, 1));
-        refused("a seventh of weight 101", IllegalArgumentException.class, () -> x.piece(1, 1, 1, 101));
+        refused("a seventh", NO_ROOM, () -> x.piece(1, 1, 1, 1));
+        refused("a seventh of width 0", RANGE, () -> x.piece(0, 1, 1, 1));
+        refused("a seventh of weight 101", RANGE, () -> x.piece(1, 1, 1, 101));
         due("pieces", 6, () -> x.count(0));
         packedPiecesTakeRoom();
     }
@@ -137,11 +72,11 @@ public final class PromisesTest {
         }
         x.solve(3000);
         x.close();
-        refused("a seventh behind close", UnsupportedOperationException.class, () -> x.piece(1, 1, 1, 1));
+        refused("a seventh behind close", NO_ROOM, () -> x.piece(1, 1, 1, 1));
     }
 
     private static void turns() {
-        promise = "Promise 3";
+        sentence("Promise 3");
         int[][] sides = {{1, 2, 3}, {1, 1, 2}, {1, 2, 1}, {2, 1, 1}, {2, 2, 2}};
         int[][] ways = {{1, 2, 3, 6}, {1, 1, 2, 3}, {1, 2, 3, 3}, {1, 2, 2, 3}, {1, 1, 1, 1}};
         for (int i = 0; i < sides.length; i++) {
@@ -154,35 +89,14 @@ public final class PromisesTest {
         }
         PackingSearch x = new PackingSearch(8, 8, 8);
         x.piece(1, 2, 3, 0);
-        refused("marks -1", IllegalArgumentException.class, () -> x.turn(0, -1));
-        refused("marks 4", IllegalArgumentException.class, () -> x.turn(0, 4));
-        refused("piece 1", NoSuchElementException.class, () -> x.turn(1, 0));
-        refused("piece -1", NoSuchElementException.class, () -> x.turn(-1, 0));
-        refused("piece 6, marks 4", NoSuchElementException.class, () -> x.turn(6, 4));
+        refused("marks -1", RANGE, () -> x.turn(0, -1));
+        refused("marks 4", RANGE, () -> x.turn(0, 4));
+        refused("piece 1", NO_PIECE, () -> x.turn(1, 0));
+        refused("piece -1", NO_PIECE, () -> x.turn(-1, 0));
+        refused("piece 6, marks 4", NO_PIECE, () -> x.turn(6, 4));
     }
 
-    /** A box that has just the sides of one way: the piece (1, 2, 3) goes in only where that way is let. */
     private static void turnsInPlans() {
-        int[][] standing = {{1, 2, 3}, {2, 1, 3}, {1, 3, 2}, {3, 1, 2}, {2, 3, 1}, {3, 2, 1}};
-        int[] needed = {0, 1, 2, 3, 2, 3};
-        for (int way = 0; way < 6; way++) {
-            for (int marks = 0; marks <= 3; marks++) {
-                int told = way;
-                int[] s = standing[way];
-                PackingSearch x = new PackingSearch(s[0], s[1], s[2]);
-                x.piece(1, 2, 3, 0);
-                x.turn(0, marks);
-                boolean let = (marks & needed[way]) == needed[way];
-                String what = " in way " + way + " with marks " + marks;
-                due("bound" + what, let ? 6 : 0, () -> x.bound());
-                due("solve" + what, let ? 6 : 0, () -> x.solve(3000));
-                due("at 6" + what, let ? told : -1, () -> x.at(0, 6));
-                for (int side = 0; side < 3; side++) {
-                    int asked = side;
-                    due("at " + (3 + side) + what, let ? s[asked] : -1, () -> x.at(0, 3 + asked));
-                }
-            }
-        }
         PackingSearch x = new PackingSearch(1, 2, 3);
         x.piece(1, 2, 3, 0);
         x.solve(3000);
@@ -202,7 +116,7 @@ public final class PromisesTest {
     }
 
     private static void limits() {
-        promise = "Promise 4";
+        sentence("Promise 4");
         PackingSearch x = tower(3, 100);
         due("no limit at first", 3, () -> x.solve(3000));
         x.limit(0, 200);
@@ -214,10 +128,10 @@ public final class PromisesTest {
         x.limit(0, 1000);
         x.limit(0, -1);
         due("limit taken back", 3, () -> x.solve(3000));
-        refused("limit -2", IllegalArgumentException.class, () -> x.limit(0, -2));
-        refused("limit 1001", IllegalArgumentException.class, () -> x.limit(0, 1001));
-        refused("piece 3", NoSuchElementException.class, () -> x.limit(3, 0));
-        refused("piece -1, limit -2", NoSuchElementException.class, () -> x.limit(-1, -2));
+        refused("limit -2", RANGE, () -> x.limit(0, -2));
+        refused("limit 1001", RANGE, () -> x.limit(0, 1001));
+        refused("piece 3", NO_PIECE, () -> x.limit(3, 0));
+        refused("piece -1, limit -2", NO_PIECE, () -> x.limit(-1, -2));
         PackingSearch two = tower(2, 1);
         two.limit(0, 0);
         two.limit(1, 0);
@@ -255,7 +169,7 @@ public final class PromisesTest {
     }
 
     private static void ranks() {
-        promise = "Promise 5";
+        sentence("Promise 5");
         PackingSearch x = new PackingSearch(1, 1, 1);
         for (int i = 0; i < 3; i++) {
             x.piece(1, 1, 1, 1);
@@ -274,16 +188,16 @@ public final class PromisesTest {
         due("the packed one counts no more", 0, () -> x.rank(0, 9));
         due("nor here", 1, () -> x.rank(1, 9));
         due("those of rank 9 are searched too", 1, () -> x.solve(3000));
-        refused("rank -1", IllegalArgumentException.class, () -> x.rank(0, -1));
-        refused("rank 10", IllegalArgumentException.class, () -> x.rank(0, 10));
-        refused("rank 10 of a packed piece", IllegalArgumentException.class, () -> x.rank(2, 10));
-        refused("piece 3", NoSuchElementException.class, () -> x.rank(3, 0));
-        refused("piece -1, rank 10", NoSuchElementException.class, () -> x.rank(-1, 10));
+        refused("rank -1", RANGE, () -> x.rank(0, -1));
+        refused("rank 10", RANGE, () -> x.rank(0, 10));
+        refused("rank 10 of a packed piece", RANGE, () -> x.rank(2, 10));
+        refused("piece 3", NO_PIECE, () -> x.rank(3, 0));
+        refused("piece -1, rank 10", NO_PIECE, () -> x.rank(-1, 10));
     }
 
     /** A roof of three cells above one of one cell: a third of its area is supported. */
     private static void shares() {
-        promise = "Promise 6";
+        sentence("Promise 6");
         int[] share = {0, 33, 34, 100};
         int[] volume = {4, 4, 3, 3};
         for (int i = 0; i < share.length; i++) {
@@ -300,8 +214,8 @@ public final class PromisesTest {
         due("share at first", 4, () -> x.solve(3000));
         x.share(100);
         due("the plan behind share", 4, () -> x.count(4));
-        refused("share -1", IllegalArgumentException.class, () -> x.share(-1));
-        refused("share 101", IllegalArgumentException.class, () -> x.share(101));
+        refused("share -1", RANGE, () -> x.share(-1));
+        refused("share 101", RANGE, () -> x.share(101));
         due("refused shares change nothing", 3, () -> x.solve(3000));
         PackingSearch flying = withOneFlying();
         flying.share(0);
@@ -324,7 +238,7 @@ public final class PromisesTest {
     }
 
     private static void solves() {
-        promise = "Promise 7";
+        sentence("Promise 7");
         PackingSearch x = new PackingSearch(4, 1, 1);
         x.piece(3, 1, 1, 0);
         x.piece(2, 1, 1, 0);
@@ -333,8 +247,8 @@ public final class PromisesTest {
         due("0 is out", -1, () -> x.at(0, 0));
         due("1 at 0", 0, () -> x.at(1, 0));
         due("2 at 2", 2, () -> x.at(2, 0));
-        refused("steps -1", IllegalArgumentException.class, () -> x.solve(-1));
-        refused("steps 3001", IllegalArgumentException.class, () -> x.solve(3001));
+        refused("steps -1", RANGE, () -> x.solve(-1));
+        refused("steps 3001", RANGE, () -> x.solve(3001));
         due("the plan behind refusals", 4, () -> x.count(4));
         due("solve(0)", 0, () -> x.solve(0));
         due("the plan is empty then", 0, () -> x.count(1));
@@ -373,33 +287,33 @@ public final class PromisesTest {
     }
 
     private static void exacts() {
-        promise = "Promise 8";
+        sentence("Promise 8");
         PackingSearch x = new PackingSearch(4, 1, 1);
-        due("before a search", false, x.exact());
+        no("before a search", () -> x.exact());
         x.piece(3, 1, 1, 0);
         x.piece(2, 1, 1, 0);
         x.solve(9);
-        due("one step too few", false, x.exact());
+        no("one step too few", () -> x.exact());
         x.solve(10);
-        due("just enough", true, x.exact());
-        refused("steps 3001", IllegalArgumentException.class, () -> x.solve(3001));
-        due("behind a refused search", true, x.exact());
+        yes("just enough", () -> x.exact());
+        refused("steps 3001", RANGE, () -> x.solve(3001));
+        yes("behind a refused search", () -> x.exact());
         x.close();
-        due("behind close", true, x.exact());
+        yes("behind close", () -> x.exact());
         x.solve(0);
-        due("no steps for the piece that is left", false, x.exact());
+        no("no steps for the piece that is left", () -> x.exact());
         x.solve(1);
-        due("one step for it", true, x.exact());
+        yes("one step for it", () -> x.exact());
         x.close();
         x.solve(0);
-        due("all are packed, no steps needed", true, x.exact());
+        yes("all are packed, no steps needed", () -> x.exact());
         PackingSearch none = new PackingSearch(1, 1, 1);
         none.solve(0);
-        due("no pieces", true, none.exact());
+        yes("no pieces", () -> none.exact());
     }
 
     private static void stepCounts() {
-        promise = "Promise 9";
+        sentence("Promise 9");
         PackingSearch x = new PackingSearch(4, 1, 1);
         due("before a search", 0, () -> x.steps());
         x.piece(3, 1, 1, 0);
@@ -408,7 +322,7 @@ public final class PromisesTest {
         due("1 + 8 with 0 in it + 1 without", 10, () -> x.steps());
         x.solve(4);
         due("as many as there were", 4, () -> x.steps());
-        refused("steps -1", IllegalArgumentException.class, () -> x.solve(-1));
+        refused("steps -1", RANGE, () -> x.solve(-1));
         due("behind a refused search", 4, () -> x.steps());
         x.solve(0);
         due("none", 0, () -> x.steps());
@@ -441,11 +355,11 @@ public final class PromisesTest {
         }
         due("the first plan of six", 6, () -> many.solve(3000));
         due("all steps are used", 3000, () -> many.steps());
-        due("and they were not enough", false, many.exact());
+        no("and they were not enough", () -> many.exact());
     }
 
     private static void bounds() {
-        promise = "Promise 10";
+        sentence("Promise 10");
         PackingSearch x = new PackingSearch(2, 3, 4);
         due("no pieces", 0, () -> x.bound());
         x.piece(2, 3, 1, 0);
@@ -474,7 +388,7 @@ public final class PromisesTest {
     }
 
     private static void ats() {
-        promise = "Promise 11";
+        sentence("Promise 11");
         PackingSearch x = new PackingSearch(2, 3, 3);
         x.piece(2, 3, 1, 0);
         x.piece(2, 1, 2, 0);
@@ -490,41 +404,41 @@ public final class PromisesTest {
                 due("at(" + p + ", " + w + ")", want[p][w], () -> x.at(p, w));
             }
         }
-        refused("what -1", IllegalArgumentException.class, () -> x.at(0, -1));
-        refused("what 7", IllegalArgumentException.class, () -> x.at(0, 7));
-        refused("piece 3", NoSuchElementException.class, () -> x.at(3, 0));
-        refused("piece -1, what 7", NoSuchElementException.class, () -> x.at(-1, 7));
+        refused("what -1", RANGE, () -> x.at(0, -1));
+        refused("what 7", RANGE, () -> x.at(0, 7));
+        refused("piece 3", NO_PIECE, () -> x.at(3, 0));
+        refused("piece -1, what 7", NO_PIECE, () -> x.at(-1, 7));
         x.piece(1, 1, 1, 0);
         due("a piece that came behind the search", -1, () -> x.at(3, 0));
-        refused("what 7 of it", IllegalArgumentException.class, () -> x.at(3, 7));
+        refused("what 7 of it", RANGE, () -> x.at(3, 7));
         x.close();
         due("behind close", -1, () -> x.at(0, 3));
     }
 
     private static void overs() {
-        promise = "Promise 12";
+        sentence("Promise 12");
         PackingSearch x = new PackingSearch(2, 2, 3);
         x.piece(2, 1, 1, 0);
         x.piece(1, 2, 1, 0);
         x.piece(2, 1, 1, 0);
         x.piece(8, 8, 8, 0);
-        refused("before a search", IllegalStateException.class, () -> x.over(0, 1));
+        refused("before a search", STATE, () -> x.over(0, 1));
         x.solve(3000);
         due("0 at z", 0, () -> x.at(0, 2));
         due("1 at z", 1, () -> x.at(1, 2));
         due("2 at y", 1, () -> x.at(2, 1));
-        due("the upper and the lower", true, x.over(1, 0));
-        due("the lower and the upper", true, x.over(0, 1));
-        due("sides that touch are no common area", false, x.over(0, 2));
-        due("and the other way", false, x.over(2, 0));
-        refused("a piece and itself", IllegalStateException.class, () -> x.over(0, 0));
-        refused("one that is not in the plan", IllegalStateException.class, () -> x.over(0, 3));
-        refused("that one first", IllegalStateException.class, () -> x.over(3, 0));
-        refused("that one and itself", IllegalStateException.class, () -> x.over(3, 3));
-        refused("no such piece", NoSuchElementException.class, () -> x.over(4, 0));
-        refused("no such other", NoSuchElementException.class, () -> x.over(0, 4));
-        refused("not in the plan, no such other", NoSuchElementException.class, () -> x.over(3, -1));
-        refused("no such piece and itself", NoSuchElementException.class, () -> x.over(-1, -1));
+        yes("the upper and the lower", () -> x.over(1, 0));
+        yes("the lower and the upper", () -> x.over(0, 1));
+        no("sides that touch are no common area", () -> x.over(0, 2));
+        no("and the other way", () -> x.over(2, 0));
+        refused("a piece and itself", STATE, () -> x.over(0, 0));
+        refused("one that is not in the plan", STATE, () -> x.over(0, 3));
+        refused("that one first", STATE, () -> x.over(3, 0));
+        refused("that one and itself", STATE, () -> x.over(3, 3));
+        refused("no such piece", NO_PIECE, () -> x.over(4, 0));
+        refused("no such other", NO_PIECE, () -> x.over(0, 4));
+        refused("not in the plan, no such other", NO_PIECE, () -> x.over(3, -1));
+        refused("no such piece and itself", NO_PIECE, () -> x.over(-1, -1));
         overFarAbove();
     }
 
@@ -534,30 +448,30 @@ public final class PromisesTest {
         x.piece(2, 1, 1, 0);
         x.piece(2, 1, 1, 0);
         x.solve(3000);
-        due("over, but not standing on it", true, x.over(2, 0));
+        yes("over, but not standing on it", () -> x.over(2, 0));
         PackingSearch row = new PackingSearch(2, 1, 1);
         row.piece(1, 1, 1, 0);
         row.piece(1, 1, 1, 0);
         row.solve(3000);
-        due("touching in x", false, row.over(0, 1));
+        no("touching in x", () -> row.over(0, 1));
     }
 
     private static void supports() {
-        promise = "Promise 13";
+        sentence("Promise 13");
         PackingSearch x = new PackingSearch(3, 1, 2);
         x.piece(1, 1, 1, 0);
         x.piece(1, 1, 1, 0);
         x.piece(3, 1, 1, 0);
-        refused("before a search", ArithmeticException.class, () -> x.support(0));
+        refused("before a search", AREA, () -> x.support(0));
         x.solve(3000);
         due("at the bottom", 100, () -> x.support(0));
         due("on two of three, rests are dropped", 66, () -> x.support(2));
-        refused("no such piece", NoSuchElementException.class, () -> x.support(3));
-        refused("piece -1", NoSuchElementException.class, () -> x.support(-1));
+        refused("no such piece", NO_PIECE, () -> x.support(3));
+        refused("piece -1", NO_PIECE, () -> x.support(-1));
         x.piece(1, 1, 1, 0);
-        refused("not in the plan", ArithmeticException.class, () -> x.support(3));
+        refused("not in the plan", AREA, () -> x.support(3));
         x.close();
-        refused("behind close", ArithmeticException.class, () -> x.support(0));
+        refused("behind close", AREA, () -> x.support(0));
         PackingSearch corner = new PackingSearch(2, 2, 2);
         corner.piece(2, 1, 1, 0);
         corner.piece(1, 2, 1, 0);
@@ -580,14 +494,14 @@ public final class PromisesTest {
     }
 
     private static void bearings() {
-        promise = "Promise 14";
+        sentence("Promise 14");
         PackingSearch x = new PackingSearch(2, 1, 4);
         x.piece(2, 1, 1, 1);
         x.piece(1, 1, 1, 2);
         x.piece(1, 1, 1, 4);
         x.piece(2, 1, 1, 8);
         x.piece(2, 1, 1, 16);
-        refused("before a search", IllegalStateException.class, () -> x.bears(0));
+        refused("before a search", STATE, () -> x.bears(0));
         x.solve(3000);
         due("all are in", 5, () -> x.count(1));
         due("the floor bears each once", 30, () -> x.bears(0));
@@ -597,12 +511,12 @@ public final class PromisesTest {
         due("the top", 0, () -> x.bears(4));
         x.limit(0, 0);
         due("the plan behind limit", 30, () -> x.bears(0));
-        refused("no such piece", NoSuchElementException.class, () -> x.bears(5));
-        refused("piece -1", NoSuchElementException.class, () -> x.bears(-1));
+        refused("no such piece", NO_PIECE, () -> x.bears(5));
+        refused("piece -1", NO_PIECE, () -> x.bears(-1));
         x.piece(1, 1, 1, 1);
-        refused("not in the plan", IllegalStateException.class, () -> x.bears(5));
+        refused("not in the plan", STATE, () -> x.bears(5));
         x.close();
-        refused("behind close", IllegalStateException.class, () -> x.bears(0));
+        refused("behind close", STATE, () -> x.bears(0));
         PackingSearch high = tower(6, 100);
         high.solve(3000);
         due("five of a hundred", 500, () -> high.bears(0));
@@ -626,7 +540,7 @@ public final class PromisesTest {
     }
 
     private static void cells() {
-        promise = "Promise 15";
+        sentence("Promise 15");
         PackingSearch x = new PackingSearch(3, 2, 2);
         x.piece(2, 2, 1, 0);
         x.piece(1, 1, 2, 0);
@@ -636,9 +550,9 @@ public final class PromisesTest {
             due("cell(" + w[0] + ", " + w[1] + ", " + w[2] + ")", w[3], () -> x.cell(w[0], w[1], w[2]));
         }
         int[][] none = {{-1, 0, 0}, {3, 0, 0}, {0, -1, 0}, {0, 2, 0}, {0, 0, -1}, {0, 0, 2},
-            {Integer.MIN_VALUE, 0, 0}, {0, Integer.MAX_VALUE, 0}, {0, 0, Integer.MIN_VALUE}};
+            {MIN, 0, 0}, {0, MAX, 0}, {0, 0, MIN}};
         for (int[] n : none) {
-            refused("cell(" + n[0] + ", " + n[1] + ", " + n[2] + ")", ArrayIndexOutOfBoundsException.class,
+            refused("cell(" + n[0] + ", " + n[1] + ", " + n[2] + ")", NO_CELL,
                     () -> x.cell(n[0], n[1], n[2]));
         }
         x.close();
@@ -646,31 +560,31 @@ public final class PromisesTest {
     }
 
     private static void closes() {
-        promise = "Promise 16";
+        sentence("Promise 16");
         PackingSearch x = new PackingSearch(1, 1, 1);
-        refused("no plan", IllegalStateException.class, () -> x.close());
+        refused("no plan", STATE, () -> x.close());
         x.piece(1, 1, 1, 3);
         x.piece(1, 1, 1, 4);
         x.piece(2, 1, 1, 5);
-        refused("no search yet", IllegalStateException.class, () -> x.close());
+        refused("no search yet", STATE, () -> x.close());
         x.solve(3000);
         due("the first box", 0, () -> x.close());
-        refused("the plan is empty now", IllegalStateException.class, () -> x.close());
+        refused("the plan is empty now", STATE, () -> x.close());
         due("one packed", 2, () -> x.count(2));
         due("the next box has room", 1, () -> x.solve(3000));
         due("the packed one is not in it", -1, () -> x.at(0, 0));
         due("the other one is", 0, () -> x.at(1, 0));
         x.solve(0);
-        refused("a search without a plan", IllegalStateException.class, () -> x.close());
+        refused("a search without a plan", STATE, () -> x.close());
         x.solve(3000);
         due("the second box", 1, () -> x.close());
         due("nothing fits any more", 0, () -> x.solve(3000));
-        refused("an empty plan", IllegalStateException.class, () -> x.close());
+        refused("an empty plan", STATE, () -> x.close());
         due("boxes", 2, () -> x.count(3));
     }
 
     private static void boxes() {
-        promise = "Promise 17";
+        sentence("Promise 17");
         PackingSearch x = new PackingSearch(2, 1, 1);
         x.piece(2, 1, 1, 0);
         x.piece(1, 1, 1, 0);
@@ -684,15 +598,15 @@ public final class PromisesTest {
         due("box of 0", 0, () -> x.box(0));
         due("box of 1", 1, () -> x.box(1));
         due("box of 2", 1, () -> x.box(2));
-        refused("no such piece", NoSuchElementException.class, () -> x.box(3));
-        refused("piece -1", NoSuchElementException.class, () -> x.box(-1));
-        refused("least piece", NoSuchElementException.class, () -> x.box(Integer.MIN_VALUE));
+        refused("no such piece", NO_PIECE, () -> x.box(3));
+        refused("piece -1", NO_PIECE, () -> x.box(-1));
+        refused("least piece", NO_PIECE, () -> x.box(MIN));
         x.piece(1, 1, 1, 0);
         due("box of a new piece", -1, () -> x.box(3));
     }
 
     private static void counts() {
-        promise = "Promise 18";
+        sentence("Promise 18");
         PackingSearch x = new PackingSearch(2, 2, 8);
         x.piece(2, 2, 1, 3);
         x.piece(2, 1, 2, 5);
@@ -707,8 +621,8 @@ public final class PromisesTest {
         countsAre(x, new int[] {4, 1, 2, 1, 4, 5, 2});
         due("what -1", -1, () -> x.count(-1));
         due("what 7", -1, () -> x.count(7));
-        due("least what", -1, () -> x.count(Integer.MIN_VALUE));
-        due("greatest what", -1, () -> x.count(Integer.MAX_VALUE));
+        due("least what", -1, () -> x.count(MIN));
+        due("greatest what", -1, () -> x.count(MAX));
     }
 
     private static void countsAre(PackingSearch x, int[] want) {
