@@ -142,6 +142,9 @@ public final class EdgesTest extends Checks {
         x.solve(3000);
         due("now the other one is", 1, () -> x.at(0, 6));
         due("and it is not", -1, () -> x.at(1, 6));
+        x.turn(1, 1);
+        x.close();
+        due("marks outlast a box", 2, () -> x.solve(3000));
     }
 
     private static void limitOfOnePiece() {
@@ -158,6 +161,13 @@ public final class EdgesTest extends Checks {
         x.close();
         x.limit(0, 0);
         due("a packed piece's limit may be told", 0, () -> x.box(0));
+        PackingSearch later = packing(1, 1, 2, p(1, 1, 2, 1), CELL, CELL);
+        later.limit(1, 0);
+        later.solve(3000);
+        later.close();
+        due("a limit outlasts a box", 1, () -> later.solve(3000));
+        later.limit(1, 1);
+        due("and is told again", 2, () -> later.solve(3000));
     }
 
     private static void rankAmongThoseNotPacked() {
@@ -287,6 +297,7 @@ public final class EdgesTest extends Checks {
         x.solve(1);
         yes("the one that is left", () -> x.exact());
         x.close();
+        yes("behind the second close", () -> x.exact());
         x.solve(0);
         yes("nothing is left", () -> x.exact());
     }

@@ -6,6 +6,7 @@ import java.lang.reflect.Modifier;
 import java.nio.file.Files;
 import java.nio.file.Path;
 import java.util.Arrays;
+import java.util.List;
 import java.util.TreeSet;
 import java.util.regex.Matcher;
 import java.util.regex.Pattern;
@@ -36,6 +37,9 @@ public final class FaceTest {
         "try", "catch", "finally", "synchronized", "assert", "native", "strictfp", "volatile",
         "->", "::", "Exact(", "System.", "Random", "Thread", "protected", "@",
     };
+    private static final List<String> THROWN = List.of("NoSuchElementException", "IllegalArgumentException",
+            "IllegalStateException", "UnsupportedOperationException", "ArithmeticException",
+            "ArrayIndexOutOfBoundsException");
     private static int wrong = 0;
 
     private static void hold(boolean holds, String what) {
@@ -48,6 +52,7 @@ public final class FaceTest {
     public static void main(String[] args) throws IOException {
         face();
         hidden();
+        sizes();
         source();
         System.out.println(wrong == 0 ? "the face is as due" : wrong + " faults");
         if (wrong != 0) {
@@ -105,6 +110,26 @@ public final class FaceTest {
         }
     }
 
+    private static void sizes() {
+        Class<?>[] inside = PackingSearch.class.getDeclaredClasses();
+        hold(inside.length < 12, "more than twelve classes");
+        sizeOf(PackingSearch.class);
+        for (Class<?> kind : inside) {
+            sizeOf(kind);
+        }
+    }
+
+    private static void sizeOf(Class<?> kind) {
+        int fields = 0;
+        for (Field field : kind.getDeclaredFields()) {
+            fields += Modifier.isStatic(field.getModifiers()) ? 0 : 1;
+        }
+        hold(fields <= 20, kind + " has more than twenty fields");
+        for (Method method : kind.getDeclaredMethods()) {
+            hold(method.getParameterCount() <= 7, method + " takes more than seven parameters");
+        }
+    }
+
     private static void source() throws IOException {
         String text = Files.readString(Path.of("src/main/java/PackingSearch.java"));
         String code = text.replaceAll("//[^\n]*", "").replaceAll("\"[^\"\n]*\"", "\"\"");
@@ -119,5 +144,9 @@ public final class FaceTest {
         }
         Matcher thrown = Pattern.compile("throw (?!new \\w+\\((\"\")?\\);)").matcher(code);
         hold(!thrown.find(), "a throw in another form");
+        Matcher names = Pattern.compile("throw new (\\w+)").matcher(code);
+        while (names.find()) {
+            hold(THROWN.contains(names.group(1)), "the document names no " + names.group(1));
+        }
     }
 }

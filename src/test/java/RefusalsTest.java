@@ -18,6 +18,7 @@ public final class RefusalsTest extends Checks {
         refusedCallsOfAFullObject();
         refusedCallsOfANewObject();
         letCallsChangeSomething();
+        thrownByHand();
         end();
     }
 
@@ -301,5 +302,25 @@ public final class RefusalsTest extends Checks {
         String before = story(wellUsed());
         deed.on(x);
         no(what + " is not heard", () -> before.equals(story(x)));
+    }
+
+    /** The machine itself must not throw, even where the document asks for its own exceptions. */
+    private static void thrownByHand() {
+        sentence("(the machine's own)");
+        PackingSearch x = withPieces(1);
+        same("support", "by a throw", thrower(() -> x.support(0)));
+        same("cell, x", "by a throw", thrower(() -> x.cell(8, 0, 0)));
+        same("cell, y", "by a throw", thrower(() -> x.cell(0, 1, 0)));
+        same("cell, z", "by a throw", thrower(() -> x.cell(0, 0, -1)));
+    }
+
+    private static String thrower(Order order) {
+        try {
+            order.carryOut();
+        } catch (ArithmeticException | ArrayIndexOutOfBoundsException e) {
+            String words = String.valueOf(e.getMessage());
+            return words.contains("by zero") || words.startsWith("Index ") ? "by the machine" : "by a throw";
+        }
+        return "by nobody";
     }
 }

@@ -35,9 +35,11 @@ public final class TermsTest extends Checks {
         standsWithACommonArea();
         supportAtTheBottom();
         supportIsASum();
+        supportBesideTheCorner();
         supportNotLessThanTheShare();
         supportByMoreThanOne();
         bearsEachOnce();
+        bearsWhateverTheNumbers();
         bearsNotMoreThanItsLimit();
         orderOfTheSearch();
         packedPiecesAreNotSearched();
@@ -452,6 +454,27 @@ public final class TermsTest extends Checks {
         }
     }
 
+    /** Away from x 0 and y 0: on one that begins with it, and on one that begins before it. */
+    private static void supportBesideTheCorner() {
+        sentence("Its SUPPORT is .. else the sum of these common areas");
+        PackingSearch half = packing(4, 1, 2, p(2, 1, 2, 0), p(1, 1, 1, 0), p(2, 1, 1, 0));
+        half.solve(3000);
+        placeIs("in x", half, 2, 2, 0, 1);
+        due("half of it, in x", 50, () -> half.support(2));
+        PackingSearch deep = packing(1, 4, 2, p(1, 2, 2, 0), p(1, 1, 1, 0), p(1, 2, 1, 0));
+        deep.solve(3000);
+        placeIs("in y", deep, 2, 0, 2, 1);
+        due("half of it, in y", 50, () -> deep.support(2));
+        PackingSearch whole = packing(4, 1, 2, p(4, 1, 1, 0), p(2, 1, 1, 0), p(2, 1, 1, 0));
+        whole.solve(3000);
+        placeIs("on a wide floor", whole, 2, 2, 0, 1);
+        due("all of it, in x", 100, () -> whole.support(2));
+        PackingSearch far = packing(1, 4, 2, p(1, 4, 1, 0), p(1, 2, 1, 0), p(1, 2, 1, 0));
+        far.solve(3000);
+        placeIs("on a deep floor", far, 2, 0, 2, 1);
+        due("all of it, in y", 100, () -> far.support(2));
+    }
+
     private static void supportNotLessThanTheShare() {
         sentence("it must not be less than the SHARE of its area");
         for (int roof = 1; roof <= 8; roof++) {
@@ -499,6 +522,45 @@ public final class TermsTest extends Checks {
             int floor = i;
             due("borne by floor " + i, 100 * (5 - floor), () -> high.bears(floor));
         }
+    }
+
+    /** Ranks make each of the six orders of a tower: what is borne goes by places, not by numbers. */
+    private static void bearsWhateverTheNumbers() {
+        sentence("A piece BEARS the weights of all pieces that stand on it, or on one that stands on it");
+        int[][] orders = {{0, 1, 2}, {0, 2, 1}, {1, 0, 2}, {1, 2, 0}, {2, 0, 1}, {2, 1, 0}};
+        int[] weight = {1, 10, 100};
+        for (int[] o : orders) {
+            PackingSearch x = packing(1, 1, 3, p(1, 1, 1, 1), p(1, 1, 1, 10), p(1, 1, 1, 100));
+            for (int i = 0; i < 3; i++) {
+                x.rank(o[i], i);
+            }
+            String what = "upward " + o[0] + ", " + o[1] + ", " + o[2] + ": borne by ";
+            int onAll = weight[o[1]] + weight[o[2]];
+            x.solve(3000);
+            due(what + "the lowest", onAll, () -> x.bears(o[0]));
+            due(what + "the middle", weight[o[2]], () -> x.bears(o[1]));
+            due(what + "the highest", 0, () -> x.bears(o[2]));
+            x.limit(o[0], onAll);
+            due("with a limit as great", 3, () -> x.solve(3000));
+            x.limit(o[0], onAll - 1);
+            due("with one less", 2, () -> x.solve(3000));
+        }
+        PackingSearch six = new PackingSearch(1, 1, 6);
+        for (int i = 0; i < 6; i++) {
+            six.piece(1, 1, 1, 1 << i);
+            six.rank(i, 9 - i);
+        }
+        six.solve(3000);
+        for (int i = 0; i < 6; i++) {
+            int piece = i;
+            due("numbers downward: borne by " + i, (1 << i) - 1, () -> six.bears(piece));
+        }
+        for (int i = 1; i < 6; i++) {
+            six.limit(i, (1 << i) - 1);
+            due("numbers downward: all limits reached up to " + i, 6, () -> six.solve(3000));
+        }
+        six.limit(5, 30);
+        due("the lowest bears one less", 5, () -> six.solve(3000));
     }
 
     private static void bearsNotMoreThanItsLimit() {
