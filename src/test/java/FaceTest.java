@@ -54,6 +54,7 @@ public final class FaceTest {
         hidden();
         sizes();
         source();
+        lengths();
         System.out.println(wrong == 0 ? "the face is as due" : wrong + " faults");
         if (wrong != 0) {
             System.exit(1);
@@ -128,6 +129,42 @@ public final class FaceTest {
         for (Method method : kind.getDeclaredMethods()) {
             hold(method.getParameterCount() <= 7, method + " takes more than seven parameters");
         }
+    }
+
+    /** Methods of the class begin four blanks in, those of the classes inside it eight. */
+    private static void lengths() throws IOException {
+        List<String> lines = Files.readAllLines(Path.of("src/main/java/PackingSearch.java"));
+        int methods = 0;
+        for (int i = 0; i < lines.size(); i++) {
+            if (lines.get(i).matches("(    |        )(?! |//|if|for|switch|return)[^=;]*\\([^;]*")) {
+                String indent = lines.get(i).startsWith("        ") ? "        " : "    ";
+                int end = i;
+                while (end < lines.size() && !lines.get(end).equals(indent + "}")) {
+                    end++;
+                }
+                methods++;
+                hold(end - i < 60, lines.get(i).strip() + " is longer than sixty lines");
+            }
+        }
+        hold(methods == declared(), "of " + declared() + " methods " + methods + " were found");
+    }
+
+    private static int declared() {
+        int all = PackingSearch.class.getDeclaredMethods().length + 1;
+        for (Class<?> inside : PackingSearch.class.getDeclaredClasses()) {
+            all += inside.getDeclaredMethods().length;
+            all += writtenConstructors(inside);
+        }
+        return all;
+    }
+
+    /** A constructor that the compiler adds is private where its class is; those of the class here are not. */
+    private static int writtenConstructors(Class<?> inside) {
+        int written = 0;
+        for (Constructor<?> constructor : inside.getDeclaredConstructors()) {
+            written += Modifier.isPrivate(constructor.getModifiers()) ? 0 : 1;
+        }
+        return written;
     }
 
     private static void source() throws IOException {

@@ -11,6 +11,9 @@ import java.util.TreeSet;
 public final class ModelTest {
     private static final int RUNS = 1500;
     private static final int CALLS = 90;
+    private static final int LONG_RUNS = 60;
+    /** As many as the document lets an object be used for. */
+    private static final int MOST_CALLS = 512;
     private static final String[] NAMES = {"piece", "turn", "limit", "rank", "share", "solve", "exact", "steps",
         "bound", "at", "over", "support", "bears", "cell", "close", "box", "count"};
 
@@ -438,14 +441,20 @@ public final class ModelTest {
         return kind < NAMES.length ? NAMES[kind] : kind < 22 ? "support" : kind < 26 ? "bears" : "solve";
     }
 
-    private static boolean runIsAsDue(int run) {
+    /** A long run would have all its pieces packed too early if it closed a box as often as a short one. */
+    private static String pickRarelyClosing(Dice dice, int call) {
+        String name = pick(dice, call);
+        return name.equals("close") && dice.roll(0, 11) > 0 ? "over" : name;
+    }
+
+    private static boolean runIsAsDue(int run, int calls) {
         Dice dice = new Dice(run);
         int side = run % 3 == 0 ? 8 : 4;
         int[] box = {dice.roll(0, side + 1), dice.roll(0, side + 1), dice.roll(0, side + 1)};
         PackingSearch program = new PackingSearch(box[0], box[1], box[2]);
         Model model = new Model(box[0], box[1], box[2]);
-        for (int i = 0; i < CALLS; i++) {
-            String name = pick(dice, i);
+        for (int i = 0; i < calls; i++) {
+            String name = calls == CALLS ? pick(dice, i) : pickRarelyClosing(dice, i);
             int[] a = arguments(name, dice, side);
             String want = say(() -> model.call(name, a));
             String got = say(() -> callProgram(program, name, a));
@@ -461,9 +470,12 @@ public final class ModelTest {
     public static void main(String[] args) {
         int wrong = 0;
         for (int run = 1; run <= RUNS; run++) {
-            wrong += runIsAsDue(run) ? 0 : 1;
+            wrong += runIsAsDue(run, CALLS) ? 0 : 1;
         }
-        System.out.println(wrong == 0 ? "all " + RUNS + " runs are as due" : wrong + " runs are not as due");
+        for (int run = RUNS + 1; run <= RUNS + LONG_RUNS; run++) {
+            wrong += runIsAsDue(run, MOST_CALLS) ? 0 : 1;
+        }
+        System.out.println(wrong == 0 ? "all " + (RUNS + LONG_RUNS) + " runs are as due" : wrong + " runs are not as due");
         if (wrong != 0) {
             System.exit(1);
         }
